@@ -100,7 +100,35 @@ public final class Levelhouse {
 
     public int run(int session) throws IndexOutOfBoundsException, UnsupportedOperationException {
         Session own = sessionOf(session);
-        int told = perform(own);
+        refusal = 0;
+        statement.read(own.text, own.length);
+        own.length = 0;
+        int fault = statement.reader.fault;
+        if (fault < 0) {
+            fault = meaning.bind(statement, standing, own.label);
+        }
+        if (fault >= 0) {
+            count(own, 'f');
+            return -1 - fault;
+        }
+        int told;
+        switch (statement.verb) {
+            case GET:
+                told = ask(own);
+                break;
+            case TABLE:
+                told = makeTable(own);
+                break;
+            case DROP:
+                told = dropTable(own);
+                break;
+            case LOWER:
+                told = lower(own);
+                break;
+            default:
+                told = alter(own);
+        }
+        count(own, refusal == 0 ? 'd' : 'r');
         if (refusal != 0) {
             throw new UnsupportedOperationException();
         }
@@ -342,38 +370,6 @@ public final class Levelhouse {
         return sum;
     }
 
-    private int perform(Session own) {
-        refusal = 0;
-        statement.read(own.text, own.length);
-        own.length = 0;
-        int fault = statement.reader.fault;
-        if (fault < 0) {
-            fault = meaning.bind(statement, standing, own.label);
-        }
-        if (fault >= 0) {
-            count(own, 'f');
-            return -1 - fault;
-        }
-        int told = execute(own);
-        count(own, refusal == 0 ? 'd' : 'r');
-        return told;
-    }
-
-    private int execute(Session own) {
-        switch (statement.verb) {
-            case GET:
-                return ask(own);
-            case TABLE:
-                return makeTable(own);
-            case DROP:
-                return dropTable(own);
-            case LOWER:
-                return lower(own);
-            default:
-                return alter(own);
-        }
-    }
-
     private int ask(Session own) {
         lookFor(own);
         if (!query.answer(statement, meaning, viewOf(own), sight)) {
@@ -550,7 +546,7 @@ public final class Levelhouse {
         void keepAnswer(int[] lines, int many, int width) {
             int size = Math.min(Math.max(many * width, 0), lines.length);
             if (answer.length < size) {
-                answer = new int[size];
+                answer = new int[Math.min(size * 2, lines.length)];
             }
             System.arraycopy(lines, 0, answer, 0, size);
             answerRows = many;
@@ -658,26 +654,23 @@ public final class Levelhouse {
         final int key;
         final int label;
         final boolean isVeil;
+        /** The numbers of a row, the first one being the key; a veil has none. */
         private final int[] cells;
 
-        /** Without cells it is a veil. */
-        Entry(Table table, int key, int label, int[] cells) {
+        Entry(Table table, int key, int label, boolean isVeil, int[] cells) {
             this.table = table;
             this.key = key;
             this.label = label;
-            this.isVeil = cells == null;
+            this.isVeil = isVeil;
             this.cells = cells;
         }
 
         int width() {
-            return cells == null ? 1 : cells.length;
+            return cells.length;
         }
 
         int hold(int column) {
-            if (column == 0) {
-                return key;
-            }
-            return cells != null && column > 0 && column < cells.length ? cells[column] : NOTHING;
+            return column >= 0 && column < cells.length ? cells[column] : NOTHING;
         }
 
         boolean isOf(Table other) {
@@ -843,11 +836,17 @@ public final class Levelhouse {
         boolean hasTwins(Table table, int label) {
             int from = placeIn(list, table.serial, NOTHING, 0);
             for (int i = from; i < list.size() && list.get(i).isOf(table); i++) {
-                for (int k = from; k < i; k++) {
-                    if (list.get(i).label == label && list.get(k).label == label
-                            && areTwins(list.get(i), list.get(k))) {
-                        return true;
-                    }
+                if (list.get(i).label == label && hasTwin(list.get(i), from, i)) {
+                    return true;
+                }
+            }
+            return false;
+        }
+
+        private boolean hasTwin(Entry entry, int from, int to) {
+            for (int i = Math.max(from, 0); i < to && i < list.size(); i++) {
+                if (list.get(i).label == entry.label && areTwins(list.get(i), entry)) {
+                    return true;
                 }
             }
             return false;
@@ -908,16 +907,16 @@ public final class Levelhouse {
         boolean isMet(Entry row) {
             for (int i = 1; i < row.table.width(); i++) {
                 Table ref = row.table.refOf(i);
-                if (ref != null && row.hold(i) != NOTHING && !hasKey(ref, row.hold(i))) {
+                int key = row.hold(i);
+                if (ref == null || key == NOTHING) {
+                    continue;
+                }
+                Entry there = get(Shelf.placeIn(list, ref.serial, key, 0));
+                if (there == null || there.key != key || !there.isOf(ref)) {
                     return false;
                 }
             }
             return true;
-        }
-
-        private boolean hasKey(Table table, int key) {
-            Entry row = get(Shelf.placeIn(list, table.serial, key, 0));
-            return row != null && row.key == key && row.isOf(table);
         }
 
         boolean isMetWhole() {
@@ -1211,109 +1210,92 @@ public final class Levelhouse {
         /** What a part of the code is on a row, on two of them, or without one. */
         int result(int from, int to, Entry one, Entry two) {
             int depth = 0;
-            for (int i = from; i < to; i++) {
-                Word word = op(i);
+            for (int i = Math.max(from, 0); i < to && i < size && i < ops.length; i++) {
+                Word word = ops[i];
                 int taken = word.bond == 0 ? 0 : word.bond == PREFIX ? 1 : 2;
                 if (depth < taken || depth - taken >= stack.length) {
                     return NOTHING;
                 }
                 depth -= taken;
-                int left = taken > 0 ? stack[depth] : NOTHING;
-                int right = taken > 1 && depth + 1 < stack.length ? stack[depth + 1] : NOTHING;
-                stack[depth] = taken == 0 ? operand(word, arg(i), one, two)
-                        : taken == 1 ? changed(word, left) : combined(word, left, right);
+                if (word == Word.NUMBER) {
+                    stack[depth] = arg(i);
+                } else if (word == Word.LABEL && one != null) {
+                    stack[depth] = two == null ? one.label : join(one.label, two.label);
+                } else if (taken == 0) {
+                    stack[depth] = word == Word.NAME ? cellOf(one, two, arg(i)) : NOTHING;
+                } else if (taken == 1) {
+                    stack[depth] = changed(word, stack[depth]);
+                } else if (depth + 1 < stack.length) {
+                    stack[depth] = combined(word, stack[depth], stack[depth + 1]);
+                }
                 depth++;
             }
             return depth > 0 ? stack[0] : NOTHING;
         }
 
-        boolean isTrue(int from, int to, Entry one, Entry two) {
-            return isTrue(result(from, to, one, two));
-        }
-
-        private static boolean isTrue(int number) {
-            return number != NOTHING && number != 0;
-        }
-
-        private static int operand(Word word, int arg, Entry one, Entry two) {
-            if (word == Word.NUMBER) {
-                return arg;
-            }
-            if (one == null || word == Word.NONE) {
-                return NOTHING;
-            }
-            if (word == Word.LABEL) {
-                return two == null ? one.label : join(one.label, two.label);
-            }
-            return cellOf(one, two, arg);
-        }
-
         private static int changed(Word word, int number) {
-            if (word == Word.NEGATE) {
-                return number == NOTHING ? NOTHING : -number;
+            switch (word) {
+                case NEGATE:
+                    return number == NOTHING ? NOTHING : -number;
+                case KNOWN:
+                    return number == NOTHING ? 0 : 1;
+                default:
+                    return number == NOTHING || number == 0 ? 1 : 0;
             }
-            boolean is = word == Word.KNOWN ? number != NOTHING : !isTrue(number);
-            return is ? 1 : 0;
         }
 
         private static int combined(Word word, int left, int right) {
-            boolean areNumbers = left != NOTHING && right != NOTHING;
-            boolean is;
+            boolean isLeft = left != NOTHING && left != 0;
+            boolean isRight = right != NOTHING && right != 0;
+            if (word == Word.EITHER || word == Word.BOTH) {
+                return isLeft && isRight || word == Word.EITHER && (isLeft || isRight) ? 1 : 0;
+            }
+            if (left == NOTHING || right == NOTHING) {
+                return word.bond == COMPARING ? 0 : NOTHING;
+            }
+            long number;
             switch (word) {
-                case EITHER:
-                    is = isTrue(left) || isTrue(right);
-                    break;
-                case BOTH:
-                    is = isTrue(left) && isTrue(right);
-                    break;
                 case EQUAL:
-                    is = areNumbers && left == right;
+                    number = left == right ? 1 : 0;
                     break;
                 case UNLIKE:
-                    is = areNumbers && left != right;
+                    number = left != right ? 1 : 0;
                     break;
                 case LESS:
-                    is = areNumbers && left < right;
+                    number = left < right ? 1 : 0;
                     break;
                 case GREATER:
-                    is = areNumbers && left > right;
+                    number = left > right ? 1 : 0;
+                    break;
+                case PLUS:
+                    number = (long) left + right;
+                    break;
+                case MINUS:
+                    number = (long) left - right;
+                    break;
+                case TIMES:
+                    number = (long) left * right;
+                    break;
+                case OVER:
+                    number = right == 0 ? NOTHING : Math.floorDiv(left, right);
                     break;
                 default:
-                    return areNumbers ? reckoned(word, left, right) : NOTHING;
+                    number = right == 0 ? NOTHING : Math.floorMod(left, right);
             }
-            return is ? 1 : 0;
+            return number < -GREATEST || number > GREATEST ? NOTHING : (int) number;
         }
-
-        private static int reckoned(Word word, long left, long right) {
-            switch (word) {
-                case PLUS:
-                    return kept(left + right);
-                case MINUS:
-                    return kept(left - right);
-                case TIMES:
-                    return kept(left * right);
-                case OVER:
-                    return right == 0 ? NOTHING : kept(Math.floorDiv(left, right));
-                default:
-                    return right == 0 ? NOTHING : kept(Math.floorMod(left, right));
-            }
-        }
-    }
-
-    /** A number, or nothing if it is out of range. */
-    private static int kept(long number) {
-        return number < -GREATEST || number > GREATEST ? NOTHING : (int) number;
     }
 
     /** The cell of a row, or, behind its own columns, of a second one. */
     private static int cellOf(Entry one, Entry two, int column) {
-        if (one == null) {
+        if (one == null || column < 0) {
             return NOTHING;
         }
-        if (column < one.width() || two == null) {
-            return one.hold(column);
+        if (column < one.cells.length) {
+            return one.cells[column];
         }
-        return two.hold(column - one.width());
+        int behind = column - one.cells.length;
+        return two != null && behind < two.cells.length ? two.cells[behind] : NOTHING;
     }
 
     /** A statement as it was read; what ends in At is the index of a token, or -1. */
@@ -1401,7 +1383,9 @@ public final class Levelhouse {
             if (reader.take(Word.ALL)) {
                 allAt = reader.at - 1;
             } else {
-                readItems();
+                do {
+                    readItem();
+                } while (reader.take(Word.COMMA));
             }
             reader.need(Word.FROM);
             tableAt = reader.need(Word.NAME);
@@ -1444,7 +1428,9 @@ public final class Levelhouse {
         private void readPut() {
             tableAt = reader.need(Word.NAME);
             reader.need(Word.OPEN);
-            readItems();
+            do {
+                readItem();
+            } while (reader.take(Word.COMMA));
             closeAt = reader.need(Word.CLOSE);
         }
 
@@ -1464,12 +1450,6 @@ public final class Levelhouse {
                 code.read(reader);
             }
             ifTo = code.size;
-        }
-
-        private void readItems() {
-            do {
-                readItem();
-            } while (reader.take(Word.COMMA));
         }
 
         private void readItem() {
@@ -1534,7 +1514,8 @@ public final class Levelhouse {
 
         /** Whether the expression behind if is true, or there is none. */
         boolean isMeant(Entry one, Entry two) {
-            return ifTo <= ifFrom || code.isTrue(ifFrom, ifTo, one, two);
+            int number = ifTo > ifFrom ? code.result(ifFrom, ifTo, one, two) : 1;
+            return number != NOTHING && number != 0;
         }
 
         int columnAt(int index) {
@@ -1552,7 +1533,7 @@ public final class Levelhouse {
         /** The index of the first column told that has a name, or -1. */
         int columnNamed(int name) {
             for (int i = 0; i < columns; i++) {
-                if (columnName(i) == name) {
+                if (reader.value(columnAt(i)) == name) {
                     return i;
                 }
             }
@@ -1858,7 +1839,7 @@ public final class Levelhouse {
                 return 'k';
             }
             altered = 1;
-            make(new Entry(table, key, label, cells));
+            make(new Entry(table, key, label, false, cells));
             return 0;
         }
 
@@ -1892,7 +1873,7 @@ public final class Levelhouse {
                     cells[column] = statement.itemResult(i, row, null);
                 }
             }
-            make(new Entry(row.table, row.key, label, cells));
+            make(new Entry(row.table, row.key, label, false, cells));
         }
 
         private void cut(Entry row) {
@@ -1901,7 +1882,7 @@ public final class Levelhouse {
                 draft.take(row.table, row.key, label);
             }
             if (draft.hasChosen(row.table, row.key, label)) {
-                there = new Entry(row.table, row.key, label, null);
+                there = new Entry(row.table, row.key, label, true, new int[0]);
                 draft.store(there);
             }
             if (there != null) {
@@ -1923,7 +1904,7 @@ public final class Levelhouse {
             if (row == null || row.isVeil) {
                 return 'k';
             }
-            make(new Entry(table, key, other, row.cells));
+            make(new Entry(table, key, other, false, row.cells));
             altered = 1;
             return draft.count(table, other) > ENTRY_ROOM ? 'f' : (char) 0;
         }
@@ -1947,7 +1928,8 @@ public final class Levelhouse {
             }
             Formula check = table.check;
             for (int i = 0; i < made.size() && check != null; i++) {
-                if (!check.isTrue(0, check.size, made.get(i), null)) {
+                int number = check.result(0, check.size, made.get(i), null);
+                if (number == NOTHING || number == 0) {
                     return 'c';
                 }
             }
@@ -2181,12 +2163,14 @@ public final class Levelhouse {
         }
 
         private int folded(Word kind, int item, int from, int to) {
+            int start = statement.itemFrom(item);
+            int end = statement.itemTo(item);
             boolean hasAny = false;
             long sum = 0;
             int least = GREATEST;
             int most = -GREATEST;
             for (int i = from; i < to; i++) {
-                int number = statement.itemResult(item, firstOf(pickedAt(i)), secondOf(pickedAt(i)));
+                int number = statement.code.result(start, end, firstOf(pickedAt(i)), secondOf(pickedAt(i)));
                 if (number != NOTHING) {
                     hasAny = true;
                     sum += number;
@@ -2197,7 +2181,10 @@ public final class Levelhouse {
             if (!hasAny) {
                 return NOTHING;
             }
-            return kind == Word.SUM ? kept(sum) : kind == Word.LEAST ? least : most;
+            if (kind == Word.SUM) {
+                return sum < -GREATEST || sum > GREATEST ? NOTHING : (int) sum;
+            }
+            return kind == Word.LEAST ? least : most;
         }
 
         /** Puts the line among those that are kept, if it is one of the first ones. */
