@@ -1383,9 +1383,9 @@ public final class Levelhouse {
             if (reader.take(Word.ALL)) {
                 allAt = reader.at - 1;
             } else {
-                do {
+                for (int i = 0; i < TEXT_ROOM && isDue(i); i++) {
                     readItem();
-                } while (reader.take(Word.COMMA));
+                }
             }
             reader.need(Word.FROM);
             tableAt = reader.need(Word.NAME);
@@ -1398,9 +1398,9 @@ public final class Levelhouse {
             }
             readIf();
             if (reader.take(Word.BY)) {
-                do {
+                for (int i = 0; i < TEXT_ROOM && isDue(i); i++) {
                     addColumn(reader.need(Word.NAME));
-                } while (reader.take(Word.COMMA));
+                }
             }
             if (reader.take(Word.UP) || reader.take(Word.DOWN)) {
                 orderAt = reader.need(Word.NUMBER);
@@ -1413,14 +1413,14 @@ public final class Levelhouse {
         private void readTable() {
             tableAt = reader.need(Word.NAME);
             reader.need(Word.OPEN);
-            do {
+            for (int i = 0; i < TEXT_ROOM && isDue(i); i++) {
                 addColumn(reader.need(Word.NAME));
                 if (reader.take(Word.REF)) {
                     reader.need(Word.NAME);
                 } else if (!reader.take(Word.KEY) && !reader.take(Word.AUTO) && !reader.take(Word.NUM)) {
                     reader.need(Word.UNIQ);
                 }
-            } while (reader.take(Word.COMMA));
+            }
             reader.need(Word.CLOSE);
             readIf();
         }
@@ -1428,20 +1428,25 @@ public final class Levelhouse {
         private void readPut() {
             tableAt = reader.need(Word.NAME);
             reader.need(Word.OPEN);
-            do {
+            for (int i = 0; i < TEXT_ROOM && isDue(i); i++) {
                 readItem();
-            } while (reader.take(Word.COMMA));
+            }
             closeAt = reader.need(Word.CLOSE);
         }
 
         private void readSet() {
             tableAt = reader.need(Word.NAME);
-            do {
+            for (int i = 0; i < TEXT_ROOM && isDue(i); i++) {
                 addColumn(reader.need(Word.NAME));
                 reader.need(Word.EQUAL);
                 readItem();
-            } while (reader.take(Word.COMMA));
+            }
             readIf();
+        }
+
+        /** Whether the first part of a list is due, or a ',' was there, and so another part. */
+        private boolean isDue(int index) {
+            return index == 0 || reader.take(Word.COMMA);
         }
 
         private void readIf() {
