@@ -105,6 +105,33 @@ public final class LanguageTest {
         d.get(1, "get a from t join u on b=b if a>11", "12;12;12;12;12;12;12;12;12;12;12;12;13;13;13;13;13;13;13;13;13;13;13;13");
     }
 
+    private static void wide() {
+        Desk d = new Desk("wide");
+        d.say(0, "table t(a key,b num)", 1);
+        for (int i = 12; i >= 1; i--) {
+            d.say(0, "put t(" + i + ",1)", 1);
+        }
+        for (String order : new String[] {"", " down 1"}) {
+            d.say(0, "get a,b,a*2 from t join t on b=b" + order, 144);
+            for (int i = 0; i < 144; i++) {
+                int row = i;
+                int key = order.isEmpty() ? i / 12 + 1 : 12 - i / 12;
+                d.due("a", () -> d.house.cell(0, row, 0), key).due("b", () -> d.house.cell(0, row, 1), 1);
+                d.due("a*2", () -> d.house.cell(0, row, 2), key * 2);
+            }
+        }
+        String ones = "1";
+        String want = "1";
+        for (int i = 1; i < 53; i++) {
+            ones += ",1";
+            want += " 1";
+        }
+        d.get(0, "get" + ones + "from t top 1", want).get(0, "get sum(-333333333),sum(333333333) from t if a<4", "-999999999 999999999");
+        d.get(0, "get sum(-333333334),sum(333333334) from t if a<4", "- -").get(0, "get sum(b-2),most(-a),least(none) from t", "-12 -1 -");
+        String blanks = " ".repeat(120 - "cut t if".length() - "none".length());
+        d.say(0, "cut t if" + blanks + "none", 0).say(0, "cut t if" + blanks + "1111", 12).fault(0, "cut t if" + blanks + "   @+").fault(0, "cut t if" + blanks + "   -");
+    }
+
     private static void tables() {
         Desk d = new Desk("tables");
         d.fault(0, "table").fault(0, "table t").fault(0, "table t(").fault(0, "table t(@)").fault(0, "table t(a@)").fault(0, "table t(a @numb)");
@@ -199,6 +226,7 @@ public final class LanguageTest {
         expressions();
         order();
         tooMany();
+        wide();
         tables();
         puts();
         sets();
