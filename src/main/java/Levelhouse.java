@@ -1910,7 +1910,6 @@ public final class Levelhouse {
                 return 'k';
             }
             make(new Entry(table, key, other, false, row.cells));
-            altered = 1;
             return draft.count(table, other) > ENTRY_ROOM ? 'f' : (char) 0;
         }
 
