@@ -195,6 +195,18 @@ public final class ModelTest {
         return s + condition(60);
     }
 
+    /** A statement in which some tokens are other ones. */
+    private String soup(String text) {
+        StringBuilder s = new StringBuilder();
+        for (Model.Token token : Model.tokens(text)) {
+            String other = pick("get", "each", "all", "from", "join", "on", "if", "by", "up", "down", "top", "put", "next", "set", "cut", "table",
+                    "key", "num", "ref", "to", "label", "count", "sum", "most", "none", "known", "a", "b", "t", "u", "1", "2", "(", ")", ",", "=", "#",
+                    "<", "+", "-", "*", "%", "&", "|", "!", "a", "b", "1", ",", ")");
+            s.append(chance(10) ? other : token.text()).append(chance(5) ? " " + other : "").append(' ');
+        }
+        return s.toString();
+    }
+
     private String statement(int session) {
         who = session;
         columns = COLUMNS;
@@ -203,6 +215,13 @@ public final class ModelTest {
                 : kind < 62 ? set() : kind < 72 ? "cut " + name() + condition(60)
                 : kind < 78 ? lower()
                 : kind < 79 ? "lower " + name() + " " + expression(1, false) + " to " + expression(1, chance(20)) : get();
+        if (chance(3)) {
+            String other = chance(50) ? get() : chance(50) ? set() : table();
+            s = s.substring(0, random.nextInt(s.length())) + other.substring(random.nextInt(other.length()));
+        }
+        if (chance(3)) {
+            s = soup(s);
+        }
         if (chance(4)) {
             int at = random.nextInt(s.length());
             s = chance(50) ? s.substring(0, at) + s.substring(at + 1)
