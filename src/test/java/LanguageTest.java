@@ -60,6 +60,7 @@ public final class LanguageTest {
             {"1|0&0", "1"}, {"(1|0)&0", "0"}, {"1+1=2&3>2", "1"}, {"1=1=1@", ""}, {"(1=1)=1", "1"}, {"1=(1=1)", "1"}, {"!1=0", "1"},
             {"!(1=0)", "1"}, {"-2*3", "-6"}, {"2*-3", "-6"}, {"known 1/0", "-"}, {"known (1/0)", "0"}, {"1-1|1", "1"}, {"5-2>2|0", "1"}, {"label", "0"}};
         for (String[] one : all) {
+            d = withTable();
             if (one[0].endsWith("@")) {
                 d.fault(0, "get 1=1@=1 from t").fault(0, "get 1<2|1<2@>3 from t").fault(0, "get (1<2@<3) from t");
             } else {
@@ -107,13 +108,18 @@ public final class LanguageTest {
         d.get(1, "get a from t join u on b=b if a>11", "12;12;12;12;12;12;12;12;12;12;12;12;13;13;13;13;13;13;13;13;13;13;13;13");
     }
 
-    private static void wide() {
+    private static Desk withTwelve() {
         Desk d = new Desk("wide");
         d.say(0, "table t(a key,b num)", 1);
         for (int i = 12; i >= 1; i--) {
             d.say(0, "put t(" + i + ",1)", 1);
         }
+        return d;
+    }
+
+    private static void wide() {
         for (String order : new String[] {"", " down 1"}) {
+            Desk d = withTwelve();
             d.say(0, "get a,b,a*2 from t join t on b=b" + order, 144);
             for (int i = 0; i < 144; i++) {
                 int row = i;
@@ -122,6 +128,7 @@ public final class LanguageTest {
                 d.due("a*2", () -> d.house.cell(0, row, 2), key * 2);
             }
         }
+        Desk d = withTwelve();
         String ones = "1";
         String want = "1";
         for (int i = 1; i < 53; i++) {

@@ -172,6 +172,7 @@ public final class PromisesTest {
     private static void promises20And21() {
         Desk d = new Desk("promises 20 and 21");
         for (int i = 0; i < 64; i++) {
+            d.anew();
             for (int k = 0; k < 64; k++) {
                 int a = i;
                 int b = k;
