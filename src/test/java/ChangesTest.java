@@ -200,6 +200,13 @@ public final class ChangesTest {
         rows(e, 1, "u", 1, 11, "none").say(0, "set t b=2", 1).endRefused(1, 'u').seen(0, 2).audit(0, 0, 'r', 3);
     }
 
+    /** The same, of a transaction that changed one entry alone. */
+    private static void fullAtEndOfOne() {
+        Desk d = new Desk("full at the end of one").say(0, "table t(a key,b uniq)", 1);
+        rows(d, 0, "t", 1, 11, "none").begin(1, 11).say(1, "put t(12,none)", 1).say(0, "put t(13,none)", 1).endRefused(1, 'f').seen(1, 12).begin(1, 12).say(1, "set t b=1 if a=1", 1).say(0, "set t b=1 if a=2", 1).endRefused(1, 'u');
+        d.begin(1, 12).say(1, "cut t if a=1", 1).end(1, 1).begin(1, 11).say(1, "put t(12,none)", 1).end(1, 1).seen(0, 12);
+    }
+
     /** "'x' if an entry that it changed was changed by what ended since it began, at that key and label" */
     private static void sameKeySinceItBegan() {
         Desk d = new Desk("same key").enter(2, 16).enter(3, 16).say(0, "table t(a key,b num)", 1).say(0, "table u(a key,b num)", 2);
@@ -248,6 +255,7 @@ public final class ChangesTest {
         loweredToFull();
         endsRefused();
         fullAtEnd();
+        fullAtEndOfOne();
         sameKeySinceItBegan();
         madeAtOnce();
         counts();

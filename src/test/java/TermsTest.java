@@ -4,6 +4,14 @@ public final class TermsTest {
         return new Desk(title);
     }
 
+    private static long sumOf(long... parts) {
+        long s = 7;
+        for (long p : parts) {
+            s = 31 * s + p;
+        }
+        return s;
+    }
+
     private static Desk fill(Desk d, int session, String table, int from, int to) {
         for (int i = from; i <= to; i++) {
             d.say(session, "put " + table + "(" + i + ")", 1);
@@ -76,6 +84,22 @@ public final class TermsTest {
         d.say(1, "put v(2)", 1).seen(1, 3).say(0, "drop t", 1).seen(1, 1).fault(1, "get all from @t").get(1, "get each all from u", "1 1").say(0, "table t(a key)", 3);
         d.get(1, "get all from t", "").get(1, "get all from u", "").say(1, "put t(1)", 1).get(1, "get all from u", "").refused(1, "put u(2,1)", 'r').end(1, 2);
         d.seen(1, 3).seen(0, 1).due("sound", () -> d.house.isSound(), true);
+    }
+
+    /** The same, of each session that has a transaction open as a table is dropped. */
+    private static void droppedInMoments() {
+        for (int dropper : new int[] {0, 4, 7}) {
+            Desk d = house("dropped in moments").say(dropper, "table t(a key)", 1).say(dropper, "table u(a key)", 2).say(dropper, "put t(1)", 1).say(dropper, "put u(1)", 1);
+            for (int s = 0; s < 8; s++) {
+                d.begin(s, 2);
+            }
+            d.giveUp(dropper, 0).say(dropper, "drop t", 1);
+            for (int i = 0; i < 8; i++) {
+                int s = i;
+                d.seen(i, 1).due("entries", () -> d.house.veilShare(s), 0f).due("tables", () -> d.house.tables(s), 1).fault(i, "get all from @t").get(i, "get each a from u", "1");
+                d.due("sum", () -> d.house.checksum(s), sumOf(0, 'u', 0, 0, 1, 1));
+            }
+        }
     }
 
     /** "of two that change the same key of a table at one label, are open at a time, and are both ended, the one .. last" */
@@ -236,6 +260,7 @@ public final class TermsTest {
         cameFromAbove();
         oneMoment();
         tablesInAMoment();
+        droppedInMoments();
         twoOfOneKey();
         firstOneRefused();
         refusedWhole();

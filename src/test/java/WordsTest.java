@@ -54,6 +54,12 @@ public final class WordsTest {
             d.fault(0, "get all from @" + word).fault(0, "get count from t by @" + word).fault(0, "get all from t join @" + word + " on a=x");
             d.fault(0, "get all from t join u on @" + word + "=x").fault(0, "get all from t join u on a=@" + word);
         }
+        for (String word : WORDS) {
+            boolean isWhole = word.equals("none") || word.equals("label");
+            String asOperand = word.equals("known") ? "put t(1+known @,2,3)" : isWhole ? "put t(1+" + word + ",@)" : "put t(1+@" + word + " 1,2,3)";
+            Desk d = withTables("place of " + word).fault(0, "put t(1 @" + word + " 2,3,4)").fault(0, "cut t if (1 @" + word + " 2)").fault(0, "set t b=(1 @" + word + " 2)");
+            d.fault(0, word.equals("from") ? "get 1 from @2" : "get 1 @" + word + " 2 from t").fault(0, asOperand);
+        }
         for (String name : new String[] {"end", "begin", "not", "or", "and", "tables", "keys", "gets", "fro", "lowe", "x", "nothin", "labels"}) {
             new Desk("name " + name).say(0, "table " + name + "(" + name + " key)", 1).say(0, "put " + name + "(3)", 1).get(0, "get " + name + " from " + name, "3");
         }
@@ -149,7 +155,7 @@ public final class WordsTest {
         }
         for (char first : "=#<>".toCharArray()) {
             for (char second : "=#<>".toCharArray()) {
-                withTables("no third one").fault(0, "get 1" + first + "2@" + second + "3 from t").fault(0, "get a+1" + first + "2*b@" + second + "3 from t").say(0, "get 1" + first + "2&2" + second + "3 from t", 2);
+                withTables("no third one").fault(0, "get 1" + first + "2@" + second + "3 from t").fault(0, "get a+1" + first + "2*b@" + second + "3 from t").fault(0, "get 1" + first + "-2+b@" + second + "3 from t").say(0, "get 1" + first + "2&2" + second + "3 from t", 2);
             }
         }
     }
@@ -261,7 +267,7 @@ public final class WordsTest {
     private static void joins() {
         Desk d = withTables("joins").say(0, "put u(3,none)", 1).say(0, "put u(4,3)", 1).get(0, "get all from t join u on a=x", "2 -7 3 2 5").get(0, "get all from t join u on c=a", "2 -7 3 4 3");
         d.get(0, "get all from u join t on a=c", "4 3 2 -7 3").get(0, "get a,c from t join t on c=c", "2 3").get(0, "get count from t join u on b=a", "0").get(0, "get a from t join u on a=x if a=2", "2");
-        d.get(0, "get a,x from u join t on x=a", "5 2").get(0, "get a,b from t join t on a=a", "1 10;2 -7").say(0, "get all from t join t on a=a", 2).due("both", () -> d.house.columns(0), 6);
+        d.get(0, "get a,x from u join t on x=a", "5 2").get(0, "get a,b from t join t on a=a", "1 10;2 -7").get(0, "get all from t join t on a=a", "1 10 - 1 10 -;2 -7 3 2 -7 3").say(0, "get all from t join t on a=a", 2).due("both", () -> d.house.columns(0), 6);
         d.get(0, "get a,count,sum(x) from t join u on a=x by a", "2 1 2").get(0, "get count from n join t on a=a", "0").get(0, "get count from t join n on a=a by a", "").get(0, "get 7 from t join n on a=b", "");
     }
 
@@ -281,6 +287,19 @@ public final class WordsTest {
         d.get(0, "get known b,count from t by b", "0 2;1 1;1 2").get(0, "get b+c*2 from t by b,c", "-;-;-;-1").get(0, "get 1 from t by c", "1;1;1").get(0, "get count from t by c down 1 top 2", "3;1").get(0, "get count,b from t by b,b,b", "1 -7;2 -;2 10");
     }
 
+    /** "that hold alike in all columns of by": nothing alike as well, also where it is all that they hold. */
+    private static void groupsOfNothing() {
+        Desk d = withTables("groups of nothing").say(0, "set t c=none", 2).get(0, "get c,count from t by c", "- 2").get(0, "get c,count,sum(a) from t by c,c", "- 2 3").say(0, "put t(3,10,none)", 1);
+        d.get(0, "get count,b,c from t by c,b", "1 -7 -;2 10 -").get(0, "get least(c),count from t by c", "- 3").say(0, "set t b=none", 3).get(0, "get b,c,count from t by b,c", "- - 3");
+    }
+
+    /** A hundred and more rows, put together ahead of all others that this house was asked for. */
+    private static void manyRowsPutTogether() {
+        withPairs().get(1, "get a,count,sum(x),most(x) from t join u on b=y by a top 3", "1 13 91 13;2 13 91 13;3 13 91 13");
+        withPairs().get(1, "get count,sum(a*x),least(a-x),most(a-x) from t join u on b=y", "169 8281 -12 12");
+        withPairs().get(1, "get x,sum(a) from t join u on b=y by x down 1 top 2", "13 91;12 91").get(0, "get x,sum(a) from t join u on b=y by x top 2", "1 78;2 78");
+    }
+
     /** "sum, least and most are of those that are numbers, nothing if there are none, or the sum is no number of part 2" */
     private static void sums() {
         Desk d = new Desk("sums").say(0, "table t(a key,b num)", 1).say(0, "put t(1,999999999)", 1).say(0, "put t(2,none)", 1).get(0, "get sum(b),least(b),most(b),count from t", "999999999 999999999 999999999 2");
@@ -293,7 +312,7 @@ public final class WordsTest {
     /** "it is a fault then if all is told, or if a name of a column, or label, stands in an item outside of sum, least and most" */
     private static void groupedFaults() {
         Desk d = withTables("grouped faults").fault(0, "get @all from t by a").fault(0, "get each @all from t by a").fault(0, "get count,@a from t").fault(0, "get @a,count from t").fault(0, "get count,1+@a from t by b");
-        d.fault(0, "get count,b+@a from t by b").fault(0, "get count,@label from t").fault(0, "get @b from t by a").get(0, "get a,sum(b+c),count from t by a", "1 - 1;2 -4 1").get(0, "get a+a*a from t by a", "2;6");
+        d.fault(0, "get count,b+@a from t by b").fault(0, "get count,@label from t").fault(0, "get @b from t by a").get(0, "get a,sum(b+c),count from t by a", "1 - 1;2 -4 1").get(0, "get a,sum(b) from t by a", "1 10;2 -7").fault(0, "get sum(b),@b from t by a").get(0, "get a+a*a from t by a", "2;6");
         d.get(0, "get sum(label) from t by a", "0;0").fault(0, "get count,sum(b),@b from t by a").fault(0, "get @x,count from t join u on a=x by a").get(0, "get x,count from t join u on a=x by x", "2 1").fault(0, "get count @all from t");
     }
 
@@ -346,6 +365,7 @@ public final class WordsTest {
                 WordsTest::nothingBehind));
         all(List.of(WordsTest::bonds, WordsTest::numbers, WordsTest::truths, WordsTest::labels, WordsTest::columnsThatAreNot, WordsTest::tablesThatAreNot, WordsTest::toldFaultsComeLast));
         all(List.of(WordsTest::ordersTold, WordsTest::ordersOfRows, WordsTest::tops, WordsTest::tooManyRows, WordsTest::joins, WordsTest::eachEntry, WordsTest::groups, WordsTest::sums));
+        all(List.of(WordsTest::groupsOfNothing, WordsTest::manyRowsPutTogether));
         all(List.of(WordsTest::groupedFaults, WordsTest::allAlone, WordsTest::orderOfParts, WordsTest::deep, WordsTest::manyItems));
         Desk.close("WordsTest");
     }
