@@ -43,6 +43,8 @@ public final class ChangesTest {
         d.begin(0, 0).refused(0, "table u(a key)", 't').refused(0, "table t(a key)", 't').fault(0, "table u(a @num)").say(1, "table u(a key)", 2).giveUp(0, 0).say(0, "table u(a key)", 2).say(0, "table v(a key)", 3);
         d.refused(0, "table w(a key)", 't').begin(1, 0).say(0, "drop v", 1).say(0, "table v(a key)", 3).end(1, 0).say(1, "table w(a key)", 3).audit(1, 0, 'r', 4).audit(1, 16, 'r', 1).audit(1, 0, 'd', 5);
         d.due("at 0", () -> d.house.tables(0), 3).due("at 16", () -> d.house.tables(1), 6);
+        Desk e = new Desk("one of two").enter(1, 16).say(0, "table b(a key)", 1).say(0, "table c(a key)", 2).refused(0, "table b(a key)", 't').refused(0, "table c(a key)", 't').say(1, "table c(a key)", 1);
+        e.say(1, "table b(a key)", 2).refused(1, "table b(x auto)", 't').refused(1, "table c(x auto)", 't').refused(0, "table b(x auto)", 't').say(0, "table a(a key)", 3).say(1, "table bb(a key)", 3);
     }
 
     /** "drop and a name takes a table, and all entries of it; refused, 't', if it is not of the label of the session, or .." */
@@ -146,6 +148,14 @@ public final class ChangesTest {
         d.say(1, "set t d=7 if a=2", 1).refused(1, "set t b=1 if a=3", 'u').say(1, "set t d=8 if a=1", "UnsupportedOperationException").due("u", () -> d.house.reason(1), 'u').say(1, "cut t if a=6", 1).say(1, "set t d=8 if a=1", 1);
     }
 
+    /** "of the table, at this label": rows of another label, or table, that hold the same number stand in no way. */
+    private static void uniqueAtALabel() {
+        Desk d = new Desk("unique at a label").enter(1, 16).enter(2, 17).enter(3, 1).say(0, "table t(a key,b uniq)", 1).say(0, "table u(a key,b uniq)", 2).say(0, "put u(1,5)", 1);
+        d.say(0, "put t(2,5)", 1).say(1, "put t(1,5)", 1).say(2, "put t(3,5)", 1).say(2, "put t(4,6)", 1).say(1, "put t(5,6)", 1).say(1, "lower t 1 to 0", 1).say(2, "lower t 3 to 16", 1);
+        d.refused(0, "put t(9,9)", 'u').refused(1, "put t(9,9)", 'u').say(2, "put t(9,9)", 1).say(3, "put t(9,9)", 1).say(3, "cut t if a=9", 1).say(2, "set t b=7 if a=4", 1).say(0, "put u(2,6)", 1);
+        d.begin(2, 8).say(2, "put t(10,10)", 1).end(2, 1).begin(1, 6).refused(1, "put t(9,9)", 'u').say(1, "cut t if a=3", 1).say(1, "put t(9,9)", 1).end(1, 2).refused(0, "cut t if 0", 'u').say(0, "cut t if a=1", 1);
+    }
+
     /** "'r' a cell of a row that it made, or changed, refers to what is not met; 'c' the check is not true of such a row" */
     private static void unmetAndUnchecked() {
         Desk d = new Desk("unmet and unchecked").enter(1, 16).say(0, "table r(a key)", 1).say(0, "table t(a key,b ref r,c num,d ref r) if c>label|!b", 2).say(0, "put r(1)", 1).say(0, "put r(2)", 1).say(0, "put t(1,1,5,2)", 1);
@@ -154,6 +164,18 @@ public final class ChangesTest {
         d.say(1, "cut t", 1).get(1, "get each a,label from t", "1 0;2 0;3 16").refused(1, "put t(4,1,99,none)", 'r').say(1, "put t(4,2,99,none)", 1).say(0, "cut r", 2).get(0, "get all from t", "").say(0, "put t(5,none,9,none)", 1).get(0, "get a from t", "5");
         Desk e = new Desk("unchecked").say(0, "table t(a key,b num) if b", 1).refused(0, "put t(1,0)", 'c').refused(0, "put t(1,none)", 'c').say(0, "put t(1,-1)", 1).refused(0, "set t b=b+1", 'c').say(0, "set t b=9", 1).say(0, "table u(a key) if 0", 2);
         e.refused(0, "put u(1)", 'c').say(0, "cut u", 0).say(0, "table v(a key) if none", 3).refused(0, "put v(1)", 'c').say(0, "set t b=0 if a=2", 0).seen(0, 1);
+    }
+
+    /** The same, of each of several rows that are changed at once. */
+    private static void oneOfSeveral() {
+        for (int i = 1; i <= 3; i++) {
+            Desk d = new Desk("one of several").enter(1, 16).say(0, "table r(a key)", 1).say(0, "table t(a key,b ref r,c num) if c#7", 2);
+            for (int k = 1; k <= 3; k++) {
+                d.say(0, "put t(" + k + ",none,0)", 1).say(0, k == i ? "put r(9)" : "put r(" + k + ")", 1);
+            }
+            d.refused(0, "set t b=a", 'r').refused(1, "set t b=a", 'r').say(0, "set t b=a if a#" + i, 2).refused(0, "set t c=6+(a=" + i + ")", 'c').refused(1, "set t c=6+(a=" + i + ")", 'c');
+            d.say(0, "set t c=6+(a=" + i + ") if a#" + i, 2).get(0, "get sum(c),count,sum(b) from t", "12 3 " + (6 - i)).say(1, "set t b=9 if a=" + i, 1).say(1, "set t c=1", 3);
+        }
     }
 
     /** "lower, a name, an expression, to, and an expression, in both of which there are no rows" and its refusals, in their order */
@@ -207,6 +229,18 @@ public final class ChangesTest {
         d.begin(1, 12).say(1, "cut t if a=1", 1).end(1, 1).begin(1, 11).say(1, "put t(12,none)", 1).end(1, 1).seen(0, 12);
     }
 
+    /** The same, at a label of which there are entries of other sessions, and of the second one of two tables. */
+    private static void endsAtALabel() {
+        Desk d = new Desk("ends at a label").enter(1, 17).enter(2, 17).enter(3, 16).say(0, "table t(a key,b uniq)", 1).say(0, "table u(a key,b uniq)", 2).begin(1, 0).say(1, "put t(1,1)", 1).say(1, "put u(1,1)", 1).say(2, "put u(2,1)", 1).endRefused(1, 'u');
+        d.begin(1, 1).say(1, "put u(3,3)", 1).say(1, "put t(1,1)", 1).say(2, "put t(2,1)", 1).endRefused(1, 'u').begin(1, 2).say(1, "put t(3,3)", 1).say(1, "put u(3,3)", 1).say(3, "put t(4,3)", 1).say(0, "put u(5,3)", 1).end(1, 2);
+        for (int i = 4; i <= 12; i++) {
+            d.say(2, "put t(" + i + ",none)", 1);
+        }
+        d.begin(1, 14).say(1, "put u(9,9)", 1).say(1, "put t(13,none)", 1).say(2, "put t(14,none)", 1).endRefused(1, 'f').begin(1, 15).say(1, "cut t if a=14", 1).say(1, "put t(13,none)", 1).say(3, "put t(15,none)", 1).end(1, 2).refused(2, "put t(16,none)", 'f');
+        Desk e = rows(new Desk("full aside").enter(1, 17).say(0, "table t(a key,b uniq)", 1), 0, "t", 1, 12, "none").begin(1, 12).say(1, "put t(13,1)", 1).say(0, "set t b=a", 12).end(1, 1).begin(0, 12).say(0, "set t b=0-a", 12).say(1, "put t(14,14)", 1).end(0, 12);
+        e.seen(1, 14).begin(1, 14).say(1, "cut t if a>12", 2).say(1, "set t b=5 if a=5", 1).say(0, "set t b=5 if a=3", 1).end(1, 3).seen(1, 12);
+    }
+
     /** "'x' if an entry that it changed was changed by what ended since it began, at that key and label" */
     private static void sameKeySinceItBegan() {
         Desk d = new Desk("same key").enter(2, 16).enter(3, 16).say(0, "table t(a key,b num)", 1).say(0, "table u(a key,b num)", 2);
@@ -249,13 +283,16 @@ public final class ChangesTest {
         firstReason();
         tooManyEntries();
         uniqueNumbers();
+        uniqueAtALabel();
         unmetAndUnchecked();
+        oneOfSeveral();
         lowerRefused();
         lowered();
         loweredToFull();
         endsRefused();
         fullAtEnd();
         fullAtEndOfOne();
+        endsAtALabel();
         sameKeySinceItBegan();
         madeAtOnce();
         counts();

@@ -360,6 +360,17 @@ public final class FaceTest {
         d.say(0, "drop t", 1).due("dropped", () -> d.house.veilShare(2), ARITHMETIC);
     }
 
+    /** The same, of the entries as a session with an open transaction has them. */
+    private static void sharesInAMoment() {
+        Desk d = new Desk("shares in a moment").enter(2, 16).enter(3, 48).begin(0, 0).begin(2, 0).say(1, "table t(a key)", 1).say(1, "put t(1)", 1).say(1, "put t(2)", 1);
+        d.due("nothing yet", () -> d.house.veilShare(0), ARITHMETIC).due("nothing yet", () -> d.house.meanLevel(2), ARITHMETIC).due("two rows", () -> d.house.veilShare(1), 0f);
+        d.say(0, "put t(3)", 1).due("one row", () -> d.house.veilShare(0), 0f).due("still nothing", () -> d.house.veilShare(2), ARITHMETIC).giveUp(2, 0).begin(2, 2);
+        d.say(2, "cut t if a=1", 1).say(2, "put t(4)", 1).due("one veil of four", () -> d.house.veilShare(2), 1f / 4f).due("of levels 0 and 1", () -> d.house.meanLevel(2), 1.0 / 2.0);
+        d.due("not ended", () -> d.house.veilShare(3), 0f).due("level 0", () -> d.house.meanLevel(3), 0.0).end(0, 1).due("one of four", () -> d.house.veilShare(2), 1f / 4f).end(2, 2);
+        d.due("one of five", () -> d.house.veilShare(2), 1f / 5f).due("levels 0, 0 and 1", () -> d.house.meanLevel(3), 1.0 / 3.0).begin(1, 3).say(0, "cut t", 3);
+        d.due("still rows", () -> d.house.veilShare(1), 0f).due("level 0", () -> d.house.meanLevel(1), 0.0).due("none", () -> d.house.veilShare(0), ARITHMETIC);
+    }
+
     /** "An object is used for at most 512 calls": the last of them is answered as the first one. */
     private static void lastCall() {
         Desk d = new Desk("512 calls");
@@ -393,6 +404,7 @@ public final class FaceTest {
         sums();
         sound();
         shares();
+        sharesInAMoment();
         lastCall();
         Desk.close("FaceTest");
     }

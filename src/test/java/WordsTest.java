@@ -209,6 +209,7 @@ public final class WordsTest {
         d.fault(0, "get q from @zz join t on q=q if q up 1").fault(0, "get q from @zz join yy on q=q").fault(0, "set @zz q=q,q=q if q").fault(0, "cut @zz if q").fault(0, "drop @zz");
         d.fault(0, "put @zz(1,2,3,4,5,6)").fault(0, "put @zz(a)").fault(0, "put @zz(next,next)").fault(0, "lower @zz a to label").fault(0, "table zz(a key,b ref @zz)").fault(0, "table w(a key,b ref @zz,c ref yy) if q");
         d.fault(0, "get count from @zz by q down 1 top 0").fault(0, "get a from t join @zz on a=q up 2").fault(0, "get @label,count from zz").fault(0, "get @all from zz by q").fault(0, "get @q,count from zz by w");
+        d.fault(0, "get x from @zz join u on x=a").fault(0, "get x,count from @zz join u on x=x if x by x").fault(0, "get a,x,q from u join @zz on x=a if b").fault(0, "get @b,count from zz join t on b=b by a");
         d.fault(0, "drop @a").fault(0, "get a from @a").due("none was made", () -> d.house.tables(0), 3);
     }
 
@@ -307,12 +308,13 @@ public final class WordsTest {
         d.get(0, "get sum(-b),least(-b),most(-b) from t", "-999999999 -999999999 1").get(0, "get sum(-b) from t if a<4", "-").get(0, "get sum(b) from t if a>2", "0").get(0, "get sum(b),least(b),most(b) from t if a=2", "- - -");
         d.get(0, "get sum(b+1) from t if a=1", "-").get(0, "get sum(none),least(none),most(none) from t", "- - -").get(0, "get sum(known b),sum(1),sum(a) from t", "3 4 10").get(0, "get least(b<0),most(b<0) from t", "0 1");
         d.say(0, "set t b=999999999", 4).get(0, "get sum(b),count from t", "- 4").get(0, "get sum(b/4) from t", "999999996").get(0, "get sum(0-b) from t if a=1", "-999999999");
+        d.get(0, "get least(b),most(b),most(-b),least(-b) from t", "999999999 999999999 -999999999 -999999999").get(0, "get most(a-9),least(a-9),most(a-8),least(a+7) from t", "-5 -8 -4 8");
     }
 
     /** "it is a fault then if all is told, or if a name of a column, or label, stands in an item outside of sum, least and most" */
     private static void groupedFaults() {
         Desk d = withTables("grouped faults").fault(0, "get @all from t by a").fault(0, "get each @all from t by a").fault(0, "get count,@a from t").fault(0, "get @a,count from t").fault(0, "get count,1+@a from t by b");
-        d.fault(0, "get count,b+@a from t by b").fault(0, "get count,@label from t").fault(0, "get @b from t by a").get(0, "get a,sum(b+c),count from t by a", "1 - 1;2 -4 1").get(0, "get a,sum(b) from t by a", "1 10;2 -7").fault(0, "get sum(b),@b from t by a").get(0, "get a+a*a from t by a", "2;6");
+        d.fault(0, "get count,b+@a from t by b").fault(0, "get count,@label from t").fault(0, "get sum(b),1+@label from t").fault(0, "get a-@label,count from t by a").get(0, "get sum(label),a from t by a", "0 1;0 2").fault(0, "get @b from t by a").get(0, "get a,sum(b+c),count from t by a", "1 - 1;2 -4 1").get(0, "get a,sum(b) from t by a", "1 10;2 -7").fault(0, "get sum(b),@b from t by a").get(0, "get a+a*a from t by a", "2;6");
         d.get(0, "get sum(label) from t by a", "0;0").fault(0, "get count,sum(b),@b from t by a").fault(0, "get @x,count from t join u on a=x by a").get(0, "get x,count from t join u on a=x by x", "2 1").fault(0, "get count @all from t");
     }
 
