@@ -298,6 +298,11 @@ public final class WordsTest {
     private static void manyRowsPutTogether() {
         withPairs().get(1, "get a,count,sum(x),most(x) from t join u on b=y by a top 3", "1 13 91 13;2 13 91 13;3 13 91 13");
         withPairs().get(1, "get count,sum(a*x),least(a-x),most(a-x) from t join u on b=y", "169 8281 -12 12");
+        String few = ";# 11 88".repeat(6) + ";# 12 90".repeat(7);
+        for (int x = 1; x <= 13; x++) {
+            few = few.replaceFirst("#", "" + x);
+        }
+        withPairs().get(1, "get x,count,sum(a) from t join u on b=y if a*13+x>32 by x", few.substring(1)).get(1, "get sum(a),x from t join u on b=y if a*13+x>31 by x top 1", "88 1");
         withPairs().get(1, "get x,sum(a) from t join u on b=y by x down 1 top 2", "13 91;12 91").get(0, "get x,sum(a) from t join u on b=y by x top 2", "1 78;2 78");
     }
 
